@@ -1,5 +1,9 @@
 /** What the tests share: pictures by their text, and a count of the answers that are not as due. */
 final class Checks {
+    static final int MIN = Integer.MIN_VALUE;
+    static final int MAX = Integer.MAX_VALUE;
+    static final int NONE = PictureRows.NONE;
+
     private final String title;
     private int done = 0;
     private int wrong = 0;
@@ -32,6 +36,25 @@ final class Checks {
         picture(text, -1 - place);
     }
 
+    /** Reads texts that have their first wrong sign at a place. */
+    void allWrongAt(int place, String... texts) {
+        for (String text : texts) {
+            wrongAt(text, place);
+        }
+    }
+
+    /** Reads a text that is good on a new object; the object, for more calls. */
+    PictureRows good(String text) {
+        PictureRows rows = new PictureRows();
+        goodNext(rows, text);
+        return rows;
+    }
+
+    void goodNext(PictureRows rows, String text) {
+        int answer = read(rows, text);
+        due("good (answer " + answer + "): " + text, answer > 0, true);
+    }
+
     static void write(PictureRows rows, String text) {
         for (int i = 0; i < text.length(); i++) {
             rows.sign(text.charAt(i));
@@ -43,18 +66,14 @@ final class Checks {
         return rows.read();
     }
 
-    static PictureRows good(String text) {
-        PictureRows rows = new PictureRows();
-        int answer = read(rows, text);
-        if (answer < 0) {
-            System.out.println("the picture " + text + " was refused with " + answer);
-        }
-        return rows;
+    /** Tells the count; whether there were answers, and all as due. */
+    boolean told() {
+        System.out.println(title + ": " + done + " answers, " + wrong + " not as due");
+        return wrong == 0 && done > 0;
     }
 
     void end() {
-        System.out.println(title + ": " + done + " answers, " + wrong + " not as due");
-        if (wrong != 0 || done == 0) {
+        if (!told()) {
             System.exit(1);
         }
     }

@@ -33,6 +33,14 @@ final class Oracle {
         answer = wrong >= 0 ? -1 - wrong : size();
     }
 
+    /** 1 or 0 by the table; 2 when there is no such kind. */
+    static int follows(int a, int b) {
+        if (a < 0 || a > 18 || b < 0 || b > 18) {
+            return 2;
+        }
+        return BEHIND[a].contains(" " + b + " ") ? 1 : 0;
+    }
+
     private int spell(String text) {
         Pattern sign = Pattern.compile("(?i:CR|DB|[AX9Z*B0/,.+\\-SVPN])|" + Pattern.quote(currency));
         Pattern count = Pattern.compile("\\(([0-9]{1,4})\\)");
@@ -125,6 +133,27 @@ final class Oracle {
             seen.add(sign);
         }
         return -1;
+    }
+
+    /** The pairs of kinds that this text's answer hangs on: those let through, and the one that was told if it was alone. */
+    void addPairs(Set<String> stood, Set<String> told) {
+        for (int i = 0; i < kinds.size(); i++) {
+            Set<String> against = new HashSet<>();
+            for (int other : kinds.subList(0, i)) {
+                if (!BEHIND[other].contains(" " + kinds.get(i) + " ")) {
+                    against.add(other + " " + kinds.get(i));
+                }
+            }
+            if (against.size() == 1) {
+                told.addAll(against);
+            }
+            if (answer == -1 - places.get(i)) {
+                return;
+            }
+            for (int other : kinds.subList(0, i)) {
+                stood.add(other + " " + kinds.get(i));
+            }
+        }
     }
 
     private boolean hasValue() {

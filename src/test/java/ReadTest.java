@@ -1,28 +1,28 @@
-/** Promise 3: the number of signs, or the first sign that can't be there. */
+/** Promise 3: the number of signs, or the first sign that can't be there; what is kept. */
 public final class ReadTest {
     public static void main(String[] args) {
-        Checks checks = new Checks("promise 3, read");
-        goodOnes(checks);
-        counts(checks);
-        noSigns(checks);
-        noSignsComeFirst(checks);
-        order(checks);
-        kinds(checks);
-        limits(checks);
-        withoutValue(checks);
-        state(checks);
-        checks.end();
+        Sentences promise = new Sentences("promise 3, read");
+        howMany(promise.test("how many signs it has (CR, DB are two; S, V, P none)"));
+        emptyText(promise.test("The text is read as a picture: an empty one"));
+        isEmptyThen(promise.test("and is empty then"));
+        refusedPlace(promise.test("-1 minus the place of the first one that can't be"));
+        refusedState(promise.test("A good one is the latest picture: a refused one changes nothing"));
+        keptByNumber(promise.test("and is kept by its number, from 0 on"));
+        full(promise.test("the 41st and later ones are the latest ones, but not kept"));
+        promise.end();
     }
 
-    private static void goodOnes(Checks checks) {
+    private static void howMany(Checks checks) {
         checks.picture("9", 1);
         checks.picture("S9(5)V99", 7);
         checks.picture("s9(5)v99", 7);
         checks.picture("SVPP9", 1);
         checks.picture("S9PPV", 1);
+        checks.picture("SVP(30)9", 1);
         checks.picture("99CR", 4);
         checks.picture("99cR", 4);
         checks.picture("99Db", 4);
+        checks.picture("9(2)CR(1)", 4);
         checks.picture("$Z,ZZ9.99DB", 11);
         checks.picture("$$,$$9.99CR", 11);
         checks.picture("+$9", 3);
@@ -30,192 +30,134 @@ public final class ReadTest {
         checks.picture("**,**9.99-", 10);
         checks.picture("B0/X", 4);
         checks.picture("nNb/0N", 6);
-        checks.picture("azx9", -2);
         checks.picture("aax9", 4);
         checks.picture("+.+", 3);
         checks.picture("V++", 2);
         checks.picture("9.", 2);
         checks.picture(".9", 2);
-    }
-
-    private static void counts(Checks checks) {
-        checks.picture("9(1)", 1);
-        checks.picture("9(01)", 1);
-        checks.picture("9(0012)", 12);
         checks.picture("X(9999)", 9999);
-        checks.picture("9(3)V(1)9(2)", 5);
-        checks.picture("9(2)CR(1)", 4);
-        checks.picture("0(3)9", 4);
-        checks.picture("+(1)9", 2);
-        String[] none = {"9()", "9(0)", "9(00)", "9(0000)", "9(00001)", "9(12345)", "9(", "9(3", "9(1234", "9((",
-            "9(a)", "9(1a)", "9(-1)", "9(+1)", "9( 1)", "9(1 )", "9(1.)", "9(1(", "9(3(2))"};
-        for (String text : none) {
-            checks.wrongAt(text, 1);
-        }
-        checks.wrongAt("9CR(0)", 3);
-        checks.wrongAt("9(2)(3)", 4);
-        checks.wrongAt("(9)", 0);
-        checks.wrongAt("9)", 1);
     }
 
-    private static void noSigns(Checks checks) {
-        for (char c = 1; c <= 126; c++) {
-            if ("AXZBSVPNaxzbsvpn90*/,.+-$".indexOf(c) < 0) {
-                checks.wrongAt(String.valueOf(c), 0);
-            }
-        }
-        checks.wrongAt("99C", 2);
-        checks.wrongAt("99D", 2);
-        checks.wrongAt("99CB", 2);
-        checks.wrongAt("99DR", 2);
-        checks.wrongAt("99C(2)R", 2);
-        checks.wrongAt("99R", 2);
-        checks.wrongAt("9 9", 1);
-        checks.wrongAt("95", 1);
+    private static void emptyText(Checks checks) {
+        PictureRows rows = new PictureRows();
+        checks.due("read() of nothing", rows.read(), -1);
+        checks.due("category()", rows.category(), Checks.NONE);
+        checks.due("read() of 9, one character", Checks.read(rows, "9"), 1);
+        checks.due("read() of nothing behind a good one", rows.read(), -1);
+        checks.due("category() of the good one", rows.category(), 3);
+        checks.due("read() of nothing again", rows.read(), -1);
+        checks.due("read() of X", Checks.read(rows, "X"), 1);
+        checks.due("nothing took no number", rows.same(1), true);
+        checks.due("and there is no number 2", rows.same(2), false);
     }
 
-    private static void noSignsComeFirst(Checks checks) {
-        checks.wrongAt("9S9!", 3);
-        checks.wrongAt("9S9(0)", 3);
+    private static void isEmptyThen(Checks checks) {
+        PictureRows rows = new PictureRows();
+        checks.due("read() of 99", Checks.read(rows, "99"), 2);
+        checks.due("read() of nothing behind it", rows.read(), -1);
+        checks.due("read() of X!", Checks.read(rows, "X!"), -2);
+        checks.due("read() of nothing behind it", rows.read(), -1);
+        checks.due("read() of 9S", Checks.read(rows, "9S"), -2);
+        checks.due("read() of nothing behind it", rows.read(), -1);
+        checks.due("read() of SV", Checks.read(rows, "SV"), -3);
+        checks.due("read() of nothing behind it", rows.read(), -1);
+        // What was begun in a refused text is not ended in the next one.
+        checks.due("read() of 9C", Checks.read(rows, "9C"), -2);
+        checks.due("read() of R", Checks.read(rows, "R"), -1);
+        checks.due("read() of 9(", Checks.read(rows, "9("), -2);
+        checks.due("read() of 2)", Checks.read(rows, "2)"), -1);
+        // A C at the text's end is not made CR by what an earlier text had there.
+        checks.due("read() of 9CR", Checks.read(rows, "9CR"), 3);
+        checks.due("read() of 9C", Checks.read(rows, "9C"), -2);
+        checks.due("read() of 9(2)", Checks.read(rows, "9(2)"), 2);
+        checks.due("read() of 9(2", Checks.read(rows, "9(2"), -2);
+        checks.due("read() of 9(", Checks.read(rows, "9("), -2);
+    }
+
+    private static void refusedPlace(Checks checks) {
+        checks.allWrongAt(0, "!", "!9", "9(32)", "S(2)9", "");
+        checks.allWrongAt(1, "9!", "9S", "9S9", "B", "azx9");
+        checks.allWrongAt(2, "99!", "9BZ", "SV", "CR");
+        checks.allWrongAt(79, "X".repeat(79) + "!", "X".repeat(79) + "S");
+        checks.wrongAt("B".repeat(79), 79);
+        checks.wrongAt("B".repeat(80), 80);
+        // The first of two.
+        checks.allWrongAt(1, "9!9?", "9S9S", "9SV9V", "9S9(32)");
+        // A place counts characters of the text, not signs.
+        checks.wrongAt("9(12)S", 5);
+        checks.wrongAt("9(3)CR9", 6);
+        checks.wrongAt("9(2)BBZ", 6);
+        // One that is none is looked for first, in the whole text.
+        checks.allWrongAt(3, "9S9!", "9S9(0)", "9V9?");
         checks.wrongAt("9(32)C", 5);
         checks.wrongAt("B!", 1);
-        checks.wrongAt("9!9?", 1);
-    }
-
-    private static void order(Checks checks) {
-        checks.wrongAt("9S", 1);
-        checks.wrongAt("SS9", 1);
-        checks.wrongAt("S(2)9", 0);
-        checks.wrongAt("9V9V", 3);
-        checks.wrongAt("9V(2)", 1);
-        checks.wrongAt("9.(2)9", 1);
-        checks.wrongAt("9.9V", 3);
-        checks.wrongAt("9V9.", 3);
-        checks.wrongAt("9CR(2)", 1);
-        checks.wrongAt("9CRDB", 3);
-        checks.wrongAt("9CR9", 3);
-        checks.wrongAt("9+-", 2);
-        checks.wrongAt("+9-", 2);
-        checks.wrongAt("+-9", 1);
-        checks.wrongAt("+9CR", 2);
-        checks.wrongAt("9$", 1);
-        checks.wrongAt("$9$", 2);
-        checks.wrongAt("ZZ9Z", 3);
-        checks.wrongAt("Z*", 1);
-        checks.wrongAt("*Z", 1);
-        checks.wrongAt("Z.*", 2);
-        checks.wrongAt("++--", 2);
-        checks.wrongAt("--++", 2);
-        checks.wrongAt("++.--", 3);
-        checks.wrongAt("++$$", 2);
-        checks.wrongAt("$$++", 2);
-        checks.wrongAt("XN", 1);
-        checks.wrongAt("N9", 1);
-        checks.wrongAt("X,", 1);
-        checks.wrongAt(",X", 1);
-        // Not just next to it: B may stand behind 9 and ahead of Z.
-        checks.wrongAt("9BZ", 2);
-        checks.wrongAt("XBBS", 3);
-    }
-
-    private static void kinds(Checks checks) {
-        // One + is kind 3 as the first sign, else 4; more are kind 8, behind the point 9.
-        checks.picture("+9", 2);
-        checks.picture("9+", 2);
-        checks.wrongAt("B+9", 2);
-        checks.picture("B++9", 4);
-        checks.picture("+(2)", 2);
-        checks.wrongAt("+9+", 2);
-        checks.picture("++.++", 5);
-        checks.wrongAt("++.++9", 5);
-        checks.wrongAt(".++9", 3);
-        checks.picture("++.99", 5);
-        checks.picture("$$.$$", 5);
-        checks.wrongAt("$$.$$9", 5);
-        checks.wrongAt("Z.Z9", 3);
-        checks.picture("Z.99", 4);
-        // P ahead of which nothing but kinds 3, 5, 14, 15, 16 is, and other P.
-        checks.picture("P9", 1);
-        checks.picture("+$P9", 3);
-        checks.picture("SPP9", 1);
-        checks.picture("VPP9", 1);
-        checks.wrongAt("PV9", 1);
-        checks.wrongAt("V9P", 2);
-        checks.wrongAt("P9P", 2);
-        checks.wrongAt("9P9", 2);
-        checks.wrongAt("BP9", 2);
-        checks.wrongAt("9P.", 2);
-        checks.wrongAt(".P9", 1);
-        checks.picture("9PV", 1);
-        checks.picture("9P+", 2);
-        checks.picture("PZZ", 2);
-        checks.wrongAt("PZ9", 2);
-        checks.wrongAt("P$9", 1);
-        checks.picture("P$$", 2);
-        checks.wrongAt("P$$9", 3);
-        checks.wrongAt("+P++", 2);
-    }
-
-    private static void limits(Checks checks) {
-        checks.picture("9(31)", 31);
-        checks.wrongAt("9(32)", 0);
-        checks.wrongAt("9(31)9", 5);
-        checks.picture("9(30)P", 30);
-        checks.wrongAt("9(31)P", 5);
-        checks.wrongAt("P(31)9", 5);
-        checks.picture("Z(15)9(16)", 31);
-        checks.wrongAt("Z(15)9(17)", 5);
-        checks.wrongAt("*(32)", 0);
-        checks.picture("+(32)", 32);
-        checks.wrongAt("+(33)", 0);
-        checks.picture("$(30),$$", 33);
-        checks.wrongAt("$(30),$$$", 8);
-        checks.picture("$9(31)", 32);
-        checks.picture("+9(31)", 32);
-        checks.picture("9(31)B(9968)", 9999);
-        checks.wrongAt("9(31)B(9969)", 5);
-        checks.wrongAt("X(9999)X", 7);
-        checks.wrongAt("X(9998)B(2)", 7);
-        checks.picture("9B(9998)", 9999);
-        checks.picture("S9V9(30)", 31);
-        checks.picture("9B(9996)CR", 9999);
-        checks.wrongAt("9B(9997)CR", 8);
-        checks.picture("9B(9998)V", 9999);
-        // 9 is a digit in pictures with X too.
-        checks.wrongAt("X9(32)", 1);
-        // The first from the left, whatever is wrong with it.
+        // Among the others the first from the left, whatever is wrong with it.
         checks.wrongAt("9(32)S", 0);
-        checks.wrongAt("9S9(32)", 1);
+        checks.wrongAt("9V9S9(32)", 3);
+        // That there is no value is told last.
+        checks.wrongAt("BS", 1);
     }
 
-    private static void withoutValue(Checks checks) {
-        checks.wrongAt("", 0);
-        checks.wrongAt("B", 1);
-        checks.wrongAt("S", 1);
-        checks.wrongAt("SV", 2);
-        checks.wrongAt("P(5)", 4);
-        checks.wrongAt("+", 1);
-        checks.wrongAt("CR", 2);
-        checks.wrongAt("$", 1);
-        checks.wrongAt("+$", 2);
-        checks.wrongAt("B(20)/,.", 8);
-        checks.wrongAt("BPPV", 4);
-        String[] good = {"A", "X", "9", "Z", "*", "N", "++", "--", "$$", "V++", "V$$"};
-        for (String text : good) {
-            checks.due("a value is in " + text, Checks.read(new PictureRows(), text) > 0, true);
+    private static void refusedState(Checks checks) {
+        PictureRows rows = checks.picture("X(5)", 5);
+        for (String text : new String[] {"S", "9!", "9S", "9(32)", "X(9999)X", "9(0)", "", "B".repeat(80)}) {
+            checks.due("refused: " + text, Checks.read(rows, text) < 0, true);
+            checks.due("category() behind " + text, rows.category(), 1);
+            checks.due("digits(0) behind " + text, rows.digits(0), Checks.NONE);
+            checks.due("at(4) behind " + text, rows.at(4), 'X');
+            checks.due("at(5) behind " + text, rows.at(5), Checks.NONE);
+            checks.due("insertion(0) behind " + text, rows.insertion(0), 0);
+            checks.due("same(0) behind " + text, rows.same(0), true);
+            checks.due("same(1) behind " + text, rows.same(1), false);
+        }
+        checks.due("read() of 9V9", Checks.read(rows, "9V9"), 2);
+        checks.due("a good one is the latest", rows.category(), 3);
+        checks.due("and is number 1", rows.same(1), true);
+        checks.due("number 0 is still the other", rows.same(0), false);
+    }
+
+    // A new object for each number, so that none comes to its 512th call.
+    private static void keptByNumber(Checks checks) {
+        for (int last = 0; last < 40; last++) {
+            PictureRows rows = new PictureRows();
+            for (int n = 0; n <= last; n++) {
+                checks.due("same(" + n + ") before it is kept", rows.same(n), false);
+                checks.goodNext(rows, "X(" + (n + 1) + ")");
+            }
+            for (int other = 0; other <= 41; other++) {
+                checks.due("same(" + other + ") behind number " + last, rows.same(other), other == last);
+            }
+            checks.goodNext(rows, "X");
+            checks.due("same(0) behind number " + last, rows.same(0), true);
         }
     }
 
-    private static void state(Checks checks) {
+    private static void full(Checks checks) {
         PictureRows rows = new PictureRows();
-        checks.due("read() of X(5)", Checks.read(rows, "X(5)"), 5);
-        checks.due("read() of S", Checks.read(rows, "S"), -2);
-        checks.due("a wrong one is not the latest", rows.category(), 1);
-        checks.due("read() of 9, behind a wrong text", Checks.read(rows, "9"), 1);
-        checks.due("a good one is the latest", rows.category(), 3);
-        checks.due("a wrong one has no number", rows.same(1), true);
-        checks.due("nor are there more", rows.same(2), false);
-        checks.due("read() of nothing", rows.read(), -1);
-        checks.due("the latest stays", rows.category(), 3);
+        for (int n = 0; n < 39; n++) {
+            checks.goodNext(rows, "A");
+        }
+        checks.due("refused ones take no room", Checks.read(rows, "9S"), -2);
+        checks.due("the 40th", Checks.read(rows, "9V9"), 2);
+        checks.due("the 40th is the latest", rows.scale(), 1);
+        checks.due("the 40th is kept", rows.same(39), true);
+        checks.due("the 41st", Checks.read(rows, "N(3)"), 3);
+        checks.due("the 41st is the latest", rows.category(), 5);
+        checks.due("its signs", rows.at(2), 'N');
+        for (int other = -1; other <= 42; other++) {
+            checks.due("the 41st is not kept as " + other, rows.same(other), false);
+        }
+        checks.due("the 42nd", Checks.read(rows, "9V9"), 2);
+        checks.due("the 42nd is the latest", rows.category(), 3);
+        for (int other = -1; other <= 42; other++) {
+            checks.due("the 42nd is as the 40th, not kept as " + other, rows.same(other), other == 39);
+        }
+        for (int n = 42; n < 100; n++) {
+            checks.goodNext(rows, "N");
+        }
+        checks.due("the 101st", Checks.read(rows, "A"), 1);
+        checks.due("the first ones are still kept", rows.same(0) && rows.same(38), true);
+        checks.due("the 40th is still the same one", rows.same(39), false);
+        checks.due("the 101st has no number", rows.same(40) || rows.same(100), false);
     }
 }

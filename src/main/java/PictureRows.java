@@ -268,6 +268,7 @@ public final class PictureRows {
                 int behind = place + widthOf(sign);
                 int count = 1;
                 if (text.characterAt(behind) == '(') {
+                    // Without a ) there is nothing between, which is 0.
                     int close = text.closeOf(behind);
                     count = text.numberBetween(behind, close);
                     if (count < 1) {
